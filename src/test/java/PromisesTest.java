@@ -187,9 +187,12 @@ public final class PromisesTest {
         faultyAtMark(1, "colour a\n~\trank 1;");
         faultyAtMark(1, "colour a ~\rrank 1;");
         faultyAtMark(1, "colour ~_ rank 1;");
+        faultyAtMark(1, "colour a rank 1;~\0");
+        faultyAtMark(1, "~\0");
+        faulty(QUIPU + "tally t by k when 1<=2 and 1>=-2;", 0, -1);
         faultyAtMark(1, "colour a ~rank1;");
         faultyAtMark(1, "colour ~rank rank 1;");
-        faultyAtMark(1, "colour a1 rank -1;".replace("-", "~-"));
+        faultyAtMark(1, "colour a1 rank ~-1;");
         due("names that begin like keywords", Listing.teach(new QuipuKeepers(), "colour mains rank 1;colour mai rank 1;"), "0@-1");
         for (String keyword : ("colour rank cord of under main count top over keeper care tie by as tally when month value sum "
                 + "knots record tired wrong not and or min max").split(" ")) {
@@ -264,6 +267,8 @@ public final class PromisesTest {
         faultyAtMark(1, tally + "not not not not not not not not ~not wrong t;");
         faulty(tally + "[[[[[[[[wrong t]]]]]]]];", 0, -1);
         faultyAtMark(1, tally + "[[[[[[[[~[wrong t]]]]]]]]];");
+        faulty(tie + "1 when [[[[[[[[wrong t]]]]]]]];", 0, -1);
+        faultyAtMark(1, tie + "1 when [[[[[[[[~[wrong t]]]]]]]]];");
         faultyAtMark(1, tally + "[not [not [not [not ~(1) = 1]]]];");
         faultyAtMark(1, tally + "[not [not [not [not 1 = ~-1]]]];");
         faulty(tally + "not wrong t and not wrong t or [not [wrong t]] and -1 < (2);", 0, -1);
