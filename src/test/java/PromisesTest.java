@@ -1,15 +1,5 @@
-import java.util.function.LongSupplier;
-
 /** Cases for each of the promises 1 to 25: ordinary ones, the edges that the document names, and wrong ones. */
-public final class PromisesTest {
-    private static final String CORDS = "colour red rank 5; colour blue rank 2; colour tan rank 5;"
-            + "cord a of red under main count 1210; cord b of blue under a count 34; cord c of tan under b count 5;"
-            + "cord d of red under c count 1; cord e of blue under main; cord f of red under a count 9999;";
-    private static final String QUIPU = CORDS
-            + "top t over a e; top u over b c d; keeper k care 1; keeper l care 9;";
-
-    private static int wrong = 0;
-
+public final class PromisesTest extends Cases {
     private PromisesTest() {
     }
 
@@ -45,82 +35,7 @@ public final class PromisesTest {
         advise();
         mean();
         digest();
-        System.out.println(wrong == 0 ? "all answers are as due" : wrong + " answers are not as due");
-        if (wrong != 0) {
-            System.exit(1);
-        }
-    }
-
-    // ---- what the cases use
-
-    private static void due(String what, Object got, Object want) {
-        if (!got.equals(want)) {
-            wrong++;
-            System.out.println(what + ": " + got + ", due is " + want);
-        }
-    }
-
-    private static void throwsIndex(String what, LongSupplier call) {
-        due(what, thrown(call), "java.lang.IndexOutOfBoundsException");
-    }
-
-    private static void throwsArgument(String what, LongSupplier call) {
-        due(what, thrown(call), "java.lang.IllegalArgumentException");
-    }
-
-    private static void throwsState(String what, LongSupplier call) {
-        due(what, thrown(call), "java.lang.IllegalStateException");
-    }
-
-    private static String thrown(LongSupplier call) {
-        try {
-            return "answer " + call.getAsLong();
-        } catch (RuntimeException e) {
-            return e.getClass().getName();
-        }
-    }
-
-    private static QuipuKeepers taught(String text) {
-        QuipuKeepers x = new QuipuKeepers();
-        due("teach of " + text, Listing.teach(x, text), "0@-1");
-        return x;
-    }
-
-    /** Without moths in the first month. */
-    private static QuipuKeepers taughtInMonth1(String text) {
-        QuipuKeepers x = new QuipuKeepers();
-        x.pass(1);
-        due("teach of " + text, Listing.teach(x, text), "0@-1");
-        return x;
-    }
-
-    private static void faulty(String text, int error, int at) {
-        due("teach of " + text, Listing.teach(new QuipuKeepers(), text), error + "@" + at);
-    }
-
-    /** The list is faulty at the first place where the mark stands in it, which is then left out. */
-    private static void faultyAtMark(int error, String text) {
-        int at = text.indexOf('~');
-        faulty(text.replace("~", ""), error, at);
-    }
-
-    private static String many(int times, String text) {
-        StringBuilder all = new StringBuilder();
-        for (int n = 0; n < times; n++) {
-            all.append(text.replace("#", "" + n));
-        }
-        return all.toString();
-    }
-
-    /** Returns what a sum comes to that a keeper who is never too tired ties, held at 0 and 9999. */
-    private static int tied(String sum) {
-        QuipuKeepers x = taughtInMonth1(QUIPU + "tie e by l as " + sum + ";");
-        x.pass(1);
-        return x.cord(4, 3);
-    }
-
-    private static boolean holds(String test) {
-        return taught(QUIPU + "tally t by l when " + test + ";").pass(1) == 1;
+        end();
     }
 
     // ---- promises 1 to 5
