@@ -43,6 +43,7 @@ public final class CallEdgesTest extends Cases {
         adviseNobody();
         adviseTheSmallestNumber();
         adviseTheLast();
+        adviseFromNone();
         adviseOneAnd90();
         nothingIsChanged();
         meanOfNone();
@@ -478,6 +479,19 @@ public final class CallEdgesTest extends Cases {
         due("the last keeper", x.advise(1), 4);
         x.rest(4);
         due("then the first keeper", x.advise(1), 0);
+    }
+
+    /** Who rests "is not tired then": by 0, and so is at 5 times the care behind five orders, and beyond it behind six. */
+    private static void adviseFromNone() {
+        for (int orders = 4; orders <= 7; orders++) {
+            QuipuKeepers x = taught("colour c rank 1; cord a of c under main; cord b of c under main; top t over a b; keeper k care 1;"
+                    + many(9, "tie b by k as 0 when month = 0;") + many(orders, "tie b by k as 0 when month = 1;")
+                    + "tally t by k when month = 1;");
+            x.pass(1);
+            x.set(0, 15);
+            due("wrong without rest", x.foresee(1, 9), 1);
+            due("advise ahead of " + orders + " orders", x.advise(1), orders <= 5 ? 0 : -1);
+        }
     }
 
     /** "Throws IllegalArgumentException if months is not 1 to 90", and is answered for both. */

@@ -33,6 +33,7 @@ public final class LanguageEdgesTest extends Cases {
         blanksWhereTokensWouldJoin();
         longestTokenIsRead();
         wordsOfSignsAlone();
+        wordsThatDifferInOneSign();
         wordsOfTenBytes();
         numbersOfSixDigits();
         symbols();
@@ -284,6 +285,19 @@ public final class LanguageEdgesTest extends Cases {
         faultyAtMark(1, "colour ~9a rank 1;");
     }
 
+    /** Names are the same, if all their signs are. */
+    private static void wordsThatDifferInOneSign() {
+        String signs = "abcdefghijklmnopqrstuvwxyz0123456789";
+        for (int n = 0; n < 36 * 36; n++) {
+            char one = signs.charAt(n / 36);
+            char other = signs.charAt(n % 36);
+            int error = one == other ? 2 : 0;
+            faulty("colour q" + one + " rank 1; colour q" + other + " rank 1;", error, error == 0 ? -1 : 25);
+            faulty("colour q" + one + "z rank 1; colour q" + other + "z rank 1;", error, error == 0 ? -1 : 26);
+        }
+        good("colour q rank 1; colour qq rank 1; colour qqq rank 1; colour q0 rank 1; colour q00 rank 1; colour zq rank 1;");
+    }
+
     /** "at most 10 bytes" */
     private static void wordsOfTenBytes() {
         good("colour a rank 1;");
@@ -459,6 +473,8 @@ public final class LanguageEdgesTest extends Cases {
         good(TALLY + "[[[[[[[[wrong t]]]]]]]] and [[[[[[[[wrong t]]]]]]]] or " + eight + "<" + eight + ";");
         good(TIE + eight + " when [[[[[[[[wrong t]]]]]]]];" + "tie a by k as --------1 when " + eight + "=--------1;");
         faultyAtMark(1, TALLY + "[1=(((((((~(1))))))))];");
+        faultyAtMark(1, TIE + eight + " when [[[[[[[[~[wrong t]]]]]]]]];");
+        faultyAtMark(1, TIE + "1 when ((((((((~(1)))))))))=1;");
     }
 
     /** The - and the not go deeper for what they turn alone, the - between two values for nothing. */

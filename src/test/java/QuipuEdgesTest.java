@@ -53,6 +53,12 @@ public final class QuipuEdgesTest extends Cases {
         due("count 1", taught(ONE + " count 1;").cord(0, 3), 1);
         due("count 9999", taught(ONE + " count 9999;").cord(0, 3), 9999);
         due("without count behind one with it", taught(ONE + " count 7; cord b of c under main;").cord(1, 3), 0);
+        QuipuKeepers x = taught(ONE + " count 7;");
+        for (int n = 0; n < 4; n++) {
+            due("teach once more", Listing.teach(x, n % 2 == 0 ? ONE + " count 9;" : ONE + " count 8; ?").charAt(0), n % 2 == 0 ? '0' : '1');
+        }
+        due("teach without count", Listing.teach(x, ONE + ";"), "0@-1");
+        due("without count behind lists with it", x.cord(0, 3), 0);
     }
 
     /** "A cord that hangs from the main cord is 1 deep, one that hangs from another one 1 deeper than this." */
@@ -434,6 +440,8 @@ public final class QuipuEdgesTest extends Cases {
             String first = single[n / 4];
             String second = single[n / 2 % 2];
             String third = single[n % 2];
+            due("a or b or c of " + n, holds(first + " or " + second + " or " + third), a || b || c);
+            due("a and b and c of " + n, holds(first + " and " + second + " and " + third), a && b && c);
             due("a and b or c of " + n, holds(first + " and " + second + " or " + third), a && b || c);
             due("a or b and c of " + n, holds(first + " or " + second + " and " + third), a || b && c);
             due("not a and b or c of " + n, holds("not " + first + " and " + second + " or " + third), !a && b || c);

@@ -260,6 +260,14 @@ public final class RefusedTest extends Cases {
                 }
             }
         }
+        refused("hang of one alone from one 4 deep", STATE, RefusedTest::firstAlone, x -> x.hang(0, 7));
+        due("hang of one alone from one 3 deep", firstAlone().hang(0, 6), 4);
+    }
+
+    private static QuipuKeepers firstAlone() {
+        QuipuKeepers x = deep();
+        x.hang(1, -1);
+        return x;
     }
 
     // ---- months
